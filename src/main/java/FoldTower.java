@@ -535,35 +535,38 @@ public final class FoldTower {
             stop = start;
             if (start >= textEnd) {
                 kind = END;
-            } else if (isLetter(bytes[start])) {
-                readWord();
-            } else if (isDigit(bytes[start])) {
-                readDigits();
-            } else {
-                readSign(bytes[start]);
+                return;
             }
-        }
-
-        private void readWord() {
-            kind = WORD;
-            while (stop < textEnd && isLetter(bytes[stop])) {
+            kind = kindBeginning(bytes[start]);
+            stop++;
+            boolean ofMany = kind == WORD || kind == NUMBER;
+            while (ofMany && stop < textEnd && kindBeginning(bytes[stop]) == kind) {
                 stop++;
             }
-        }
-
-        private void readDigits() {
-            kind = NUMBER;
-            value = 0;
-            while (stop < textEnd && isDigit(bytes[stop])) {
-                boolean fits = stop - start < MOST_DIGITS;
-                value = fits ? 10 * value + bytes[stop] - '0' : TOO_LONG;
-                stop++;
+            if (kind == NUMBER) {
+                readValue();
             }
         }
 
-        private void readSign(char sign) {
-            kind = sign == ';' ? SEMICOLON : sign == '-' ? MINUS : NO_TOKEN;
-            stop = start + 1;
+        private void readValue() {
+            value = stop - start > MOST_DIGITS ? TOO_LONG : 0;
+            for (int i = start; i < stop && i < textEnd && value < TOO_LONG; i++) {
+                value = 10 * value + bytes[i] - '0';
+            }
+        }
+
+        private static int kindBeginning(char c) {
+            if (c >= 'a' && c <= 'z') {
+                return WORD;
+            }
+            if (c >= '0' && c <= '9') {
+                return NUMBER;
+            }
+            return c == ';' ? SEMICOLON : c == '-' ? MINUS : NO_TOKEN;
+        }
+
+        private static boolean isBlank(char c) {
+            return c == 32 || c == 10;
         }
 
         boolean isWord(String word) {
@@ -627,18 +630,6 @@ public final class FoldTower {
                 refuse(CANNOT_STAND);
             }
             advance();
-        }
-
-        private static boolean isBlank(char c) {
-            return c == 32 || c == 10;
-        }
-
-        private static boolean isLetter(char c) {
-            return c >= 'a' && c <= 'z';
-        }
-
-        private static boolean isDigit(char c) {
-            return c >= '0' && c <= '9';
         }
     }
 
