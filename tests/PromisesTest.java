@@ -162,6 +162,11 @@ public final class PromisesTest {
         faultIs("wind 1 0 0 1 1;", 1, 13);
         faultIs("wind 1 0 0;wind 1 0 0;", 3, 16);
         faultIs("known up 1;", 1, 6);
+        faultIs("known leftaz 1;", 1, 6);
+        faultIs("known left{ 1;", 1, 10);
+        faultIs("known left` 1;", 1, 10);
+        faultIs("tower 9/;", 1, 7);
+        faultIs("tower 9:;", 1, 7);
         faultIs("known left 0;", 2, 11);
         faultIs("known left 5;", 2, 11);
         faultIs("known left 1;known left 1;", 4, 24);
@@ -584,6 +589,10 @@ public final class PromisesTest {
         // 6 by 3 and 5 by 2.
         Check.is("16 by weight, upper", 28, () -> odds.mean(0, 0));
         Check.is("16 by weight, lower", 5, () -> odds.mean(0, 1));
+        FoldTower one = taughtBy("wind 0 0 0 0;wind 1 0 0 0;wind 2 0 0 0;wind 3 0 0 0;wind 4 0 0 0;"
+                + "wind 5 0 0 0;wind 6 0 0 0;wind 7 0 0 0;wind 8 0 0 0;");
+        Check.is("16 one weight of 1, upper", 75, () -> one.mean(0, 0));
+        Check.is("16 one weight of 1, lower", 1, () -> one.mean(0, 1));
         StringBuilder none = new StringBuilder();
         for (int m = 0; m < 10; m++) {
             none.append("wind ").append(m).append(" 1 0 0;");

@@ -173,7 +173,7 @@ public final class FoldTower {
             return sheet.weightAt(x, y);
         }
         int cell = sheet.cellAt(x, y, i);
-        if (cell == NONE) {
+        if (cell < 0 || cell >= MOST_CELLS) {
             throw new NoSuchElementException();
         }
         return cell + 100 * sheet.backUp[cell];
