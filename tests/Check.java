@@ -68,6 +68,13 @@ final class Check {
         return word;
     }
 
+    /** A new object that a text without a fault tells. */
+    static FoldTower schooled(String text) {
+        FoldTower t = new FoldTower();
+        is("school " + text, 0, () -> school(t, text));
+        return t;
+    }
+
     static int school(FoldTower t, String text) {
         put(t, text);
         return t.school(text.length());

@@ -34,12 +34,6 @@ public final class PromisesTest {
         Check.end();
     }
 
-    private static FoldTower taughtBy(String text) {
-        FoldTower t = new FoldTower();
-        Check.is("school " + text, 0, () -> Check.school(t, text));
-        return t;
-    }
-
     private static void newObject() {
         FoldTower t = new FoldTower();
         int[] due = {4, 6, 4, 6, 0, 0, 5, 0, 8, 0, 0, 0, 0, 0};
@@ -83,7 +77,7 @@ public final class PromisesTest {
     }
 
     private static void school() {
-        FoldTower t = taughtBy("sheet 8 7;table 9 20 0;wind 3 -5 5 99;wind 4 - 0 -2;tower 200;window 200 200 200;"
+        FoldTower t = Check.schooled("sheet 8 7;table 9 20 0;wind 3 -5 5 99;wind 4 - 0 -2;tower 200;window 200 200 200;"
                 + "known tail 4;known nose 1;");
         Check.is("3 W", 8, () -> t.count(0));
         Check.is("3 H", 7, () -> t.count(1));
@@ -179,7 +173,7 @@ public final class PromisesTest {
     }
 
     private static void schoolKeepsAndForgets() {
-        FoldTower t = taughtBy("sheet 6 6;");
+        FoldTower t = Check.schooled("sheet 6 6;");
         t.fold(0, 1);
         t.fold(0, 4);
         t.teach(0, -1, -1, -1);
@@ -257,7 +251,7 @@ public final class PromisesTest {
     }
 
     private static void count() {
-        FoldTower t = taughtBy("sheet 5 3;known left 2;");
+        FoldTower t = Check.schooled("sheet 5 3;known left 2;");
         t.fold(0, 2);
         t.fold(9 - 9, 2);
         t.teach(0, -1, -1, -1);
@@ -270,7 +264,7 @@ public final class PromisesTest {
         }
         Check.none("6 -1", () -> t.count(-1));
         Check.none("6 14", () -> t.count(14));
-        FoldTower flat = taughtBy("sheet 3 1;");
+        FoldTower flat = Check.schooled("sheet 3 1;");
         Check.is("6 NOSINESS of length 1", 0, () -> flat.count(6));
         FoldTower tailed = new FoldTower();
         tailed.fold(3, 3);
@@ -290,7 +284,7 @@ public final class PromisesTest {
     }
 
     private static void table() {
-        FoldTower t = taughtBy("table 2 3 4;wind 2 -1 5 6;");
+        FoldTower t = Check.schooled("table 2 3 4;wind 2 -1 5 6;");
         int[] due = {3, 4, -1, 5, 6};
         for (int what = 0; what < 5; what++) {
             int w = what;
@@ -303,7 +297,7 @@ public final class PromisesTest {
     }
 
     private static void fold() {
-        FoldTower t = taughtBy("sheet 8 5;");
+        FoldTower t = Check.schooled("sheet 8 5;");
         Check.is("8 by half", 1, () -> t.fold(0, 4));
         Check.is("8 by more", -1, () -> t.fold(1, 3));
         Check.is("8 by 0", -1, () -> t.fold(1, 0));
@@ -318,7 +312,7 @@ public final class PromisesTest {
         Check.none("8 side -1", () -> t.fold(-1, 1));
         Check.none("8 side 4", () -> t.fold(4, 0));
         Check.is("8 exceptions are not counted", 4, () -> t.count(12));
-        FoldTower most = taughtBy("sheet 8 8;");
+        FoldTower most = Check.schooled("sheet 8 8;");
         for (int i = 0; i < 14; i++) {
             int side = i % 2 * 2 + i / 2 % 2;
             int due = i + 1;
@@ -344,7 +338,7 @@ public final class PromisesTest {
     }
 
     private static void layer() {
-        FoldTower t = taughtBy("sheet 4 1;");
+        FoldTower t = Check.schooled("sheet 4 1;");
         Check.is("10 plain", 3, () -> t.layer(3, 0, 0));
         t.fold(0, 1);
         t.fold(1, 1);
@@ -366,7 +360,7 @@ public final class PromisesTest {
         Check.none("10 y 1", () -> t.layer(0, 1, -1));
         Check.none("10 x -1", () -> t.layer(-1, 0, 0));
         Check.none("10 y -1", () -> t.layer(0, -1, 0));
-        FoldTower right = taughtBy("sheet 5 1;");
+        FoldTower right = Check.schooled("sheet 5 1;");
         right.fold(1, 2);
         int[] over = {0, 1, 104, 2, 103};
         int[] x = {0, 1, 1, 2, 2};
@@ -378,7 +372,7 @@ public final class PromisesTest {
     }
 
     private static void crease() {
-        FoldTower t = taughtBy("sheet 4 2;");
+        FoldTower t = Check.schooled("sheet 4 2;");
         t.fold(1, 1);
         t.fold(3, 1);
         t.fold(0, 1);
@@ -395,7 +389,7 @@ public final class PromisesTest {
         Check.none("11 y -1", () -> t.crease(0, -1, true));
         Check.none("11 y 2", () -> t.crease(0, 2, false));
         Check.none("11 x 4", () -> t.crease(4, 0, true));
-        Check.is("11 the last corner", 0, () -> taughtBy("sheet 2 2;").crease(1, 0, true));
+        Check.is("11 the last corner", 0, () -> Check.schooled("sheet 2 2;").crease(1, 0, true));
     }
 
     private static void flight() {
@@ -414,14 +408,14 @@ public final class PromisesTest {
         Check.illegal("12 minute 10", () -> t.flight(10, 0, false, 0));
         Check.illegal("12 trim -4", () -> t.flight(0, -4, false, 0));
         Check.illegal("12 trim 4", () -> t.flight(0, 4, false, 0));
-        FoldTower windy = taughtBy("wind 0 -5 5;wind 8 2 -1;wind 9 1 1;tower 8;");
+        FoldTower windy = Check.schooled("wind 0 -5 5;wind 8 2 -1;wind 9 1 1;tower 8;");
         // From minute 8: 7 far by 3, 6 far by 1, none by 0, then 5 by 2 twice.
         Check.is("12 by the minute", 23, () -> windy.flight(8, 0, false, 0));
         Check.is("12 steps by the minute", 5, () -> windy.flight(8, 0, false, 1));
-        FoldTower low = taughtBy("tower 1;table 5 0 20;");
+        FoldTower low = Check.schooled("tower 1;table 5 0 20;");
         Check.is("12 one step", 1, () -> low.flight(0, 0, false, 1));
         Check.is("12 below 0", -19, () -> low.step(0, 0, false, 1, 1));
-        FoldTower ever = taughtBy("table 5 20 0;");
+        FoldTower ever = Check.schooled("table 5 20 0;");
         Check.is("12 200 steps", 200, () -> ever.flight(0, 0, false, 1));
         Check.is("12 as far as can be", 4000, () -> ever.flight(0, 0, false, 0));
     }
@@ -432,20 +426,20 @@ public final class PromisesTest {
         // 15 steps of 5: ahead, left, back, right, ... : 15 mod 4 are 3 more: ahead, left, back.
         Check.is("12 round, far", 0, () -> left.flight(0, 0, false, 0));
         Check.is("12 round, aside", -5, () -> left.flight(0, 0, false, 2));
-        FoldTower right = taughtBy("sheet 3 2;table 5 1 1;tower 10;");
+        FoldTower right = Check.schooled("sheet 3 2;table 5 1 1;tower 10;");
         right.fold(1, 1);
         // WEIGHTS 2 and 4 wide: 2 more, so each 4th step.
         Check.is("12 each 4th", 0, () -> right.step(0, 0, false, 3, 2));
         Check.is("12 to the right", 1, () -> right.step(0, 0, false, 4, 2));
         Check.is("12 then back", 2, () -> right.step(0, 0, false, 8, 2));
-        FoldTower one = taughtBy("sheet 3 1;table 0 1 1;");
+        FoldTower one = Check.schooled("sheet 3 1;table 0 1 1;");
         one.fold(0, 1);
         Check.is("12 by 1: each 8th", 0, () -> one.step(0, 0, false, 7, 2));
         Check.is("12 to the left behind the 8th", 3, () -> one.step(0, 0, false, 8, 2));
         Check.is("12 back behind the 16th", 2, () -> one.step(0, 0, false, 16, 2));
         Check.is("12 right behind the 24th", 1, () -> one.step(0, 0, false, 24, 2));
         Check.is("12 aside", 0 - 8 + 6, () -> one.flight(0, 0, false, 2));
-        FoldTower three = taughtBy("sheet 3 3;table 4 1 1;");
+        FoldTower three = Check.schooled("sheet 3 3;table 4 1 1;");
         three.fold(0, 1);
         Check.is("12 by 3: not behind the 1st", 0, () -> three.step(0, 0, false, 1, 2));
         Check.is("12 by 3: each 2nd", 3, () -> three.step(0, 0, false, 2, 2));
@@ -457,21 +451,21 @@ public final class PromisesTest {
         for (int i = 0; i < windows.length; i++) {
             String text = "window " + windows[i] + ";";
             int want = due[i];
-            Check.is("12 through " + text, want, () -> taughtBy(text).flight(0, 0, false, 3));
+            Check.is("12 through " + text, want, () -> Check.schooled(text).flight(0, 0, false, 3));
         }
-        FoldTower aside = taughtBy("window 6 0 200;tower 100;wind 9 1 0;");
+        FoldTower aside = Check.schooled("window 6 0 200;tower 100;wind 9 1 0;");
         aside.fold(0, 1);
         // Ahead 5, left, back to 0, right to 0 aside, ahead again: never 6, but by a push at the start.
         Check.is("12 never so far", 0, () -> aside.flight(0, 0, false, 3));
         Check.is("12 at once", 1, () -> aside.flight(9, 0, false, 3));
-        FoldTower beside = taughtBy("window 10 0 200;tower 20;wind 1 1 0;wind 4 5 0;");
+        FoldTower beside = Check.schooled("window 10 0 200;tower 20;wind 1 1 0;wind 4 5 0;");
         beside.fold(0, 1);
         Check.is("12 with something aside", 0, () -> beside.flight(0, 0, false, 3));
         Check.is("12 far enough", 10, () -> beside.step(0, 0, false, 5, 0));
     }
 
     private static void step() {
-        FoldTower t = taughtBy("wind 1 2 1;");
+        FoldTower t = Check.schooled("wind 1 2 1;");
         Check.is("13 at first far", 0, () -> t.step(0, 0, false, 0, 0));
         Check.is("13 at first high", 30, () -> t.step(0, 0, false, 0, 1));
         Check.is("13 at first ahead", 0, () -> t.step(0, 0, false, 0, 2));
@@ -510,18 +504,18 @@ public final class PromisesTest {
         foundIs("14 farthest by one", t, 1, 4);
         Check.is("14 longest, the least trim", 200, () -> t.best(1, 4, 0));
         foundIs("14 longest, fewest folds", t, 2);
-        FoldTower known = taughtBy("known nose 2;known left 2;known nose 1;");
+        FoldTower known = Check.schooled("known nose 2;known left 2;known nose 1;");
         // By nose 2, too, NOSINESS is 6: 40 by 9, by 24, by 3; it comes first.
         Check.is("14 the first of like ones", 1000, () -> known.best(0, 1, 0));
         foundIs("14 the first of like ones", known, 1, 0);
-        FoldTower window = taughtBy("window 30 20 20;");
+        FoldTower window = Check.schooled("window 30 20 20;");
         // NOSINESS 6: 5 steps of 6 are 25 high; 5: 6 of 5 by 2 are 18; by trim -1: 8 of 4 by 3 are 6.
         Check.is("14 none through", -10000, () -> window.best(2, 0, 0));
         Check.none("14 none is kept", () -> window.found(-1));
         Check.is("14 kept", 600, () -> window.best(0, 0, 0));
         Check.is("14 none through again", -10000, () -> window.best(2, 0, 9));
         foundIs("14 what is kept stays", window, 2);
-        FoldTower low = taughtBy("window 30 1 29;");
+        FoldTower low = Check.schooled("window 30 1 29;");
         Check.is("14 through, farthest", 120, () -> low.best(2, 0, 0));
         foundIs("14 through, farthest", low, 1);
         Check.none("14 what 3 ahead of all", () -> t.best(3, 5, 10));
@@ -538,11 +532,11 @@ public final class PromisesTest {
 
     private static void bestSpent() {
         // 4998 rows of 0 to 4 can be here, and 5027 there.
-        FoldTower just = taughtBy("sheet 8 7;known left 1;known right 1;known left 2;known left 3;known left 4;"
+        FoldTower just = Check.schooled("sheet 8 7;known left 1;known right 1;known left 2;known left 3;known left 4;"
                 + "known nose 1;known tail 1;known nose 2;known nose 3;known tail 3;");
         String text = "sheet 8 8;known left 1;known right 1;known left 2;known right 2;known nose 1;"
                 + "known nose 2;known tail 2;known nose 3;known tail 3;";
-        FoldTower spent = taughtBy(text);
+        FoldTower spent = Check.schooled(text);
         Check.same("14 not spent", false, Check.told(() -> just.best(0, 4, 0)).equals("-20000"));
         Check.same("17 not spent", false, Check.told(() -> just.rows(4, true)).equals("-2"));
         Check.is("14 kept by 3", 3, () -> {
@@ -559,7 +553,7 @@ public final class PromisesTest {
         Check.is("17 spent", -2, () -> spent.rows(4, true));
         Check.is("17 spent, too", -2, () -> spent.rows(4, false));
         foundIs("14 spent: what is kept stays", spent, 0, 0, 4, 3);
-        FoldTower closed = taughtBy(text.replace("sheet 8 8;", "sheet 8 8;tower 1;window 200 200 200;"));
+        FoldTower closed = Check.schooled(text.replace("sheet 8 8;", "sheet 8 8;tower 1;window 200 200 200;"));
         Check.is("14 spent ahead of none through", -20000, () -> closed.best(2, 4, 0));
     }
 
@@ -584,12 +578,12 @@ public final class PromisesTest {
         FoldTower t = new FoldTower();
         Check.is("16 upper", 75, () -> t.mean(0, 0));
         Check.is("16 lower", 1, () -> t.mean(0, 1));
-        FoldTower odds = taughtBy("tower 2;wind 0 1 0 3;wind 1 0 0 2;wind 2 0 0 0;wind 3 0 0 0;wind 4 0 0 0;"
+        FoldTower odds = Check.schooled("tower 2;wind 0 1 0 3;wind 1 0 0 2;wind 2 0 0 0;wind 3 0 0 0;wind 4 0 0 0;"
                 + "wind 5 0 0 0;wind 6 0 0 0;wind 7 0 0 0;wind 8 0 0 0;wind 9 0 0 0;");
         // 6 by 3 and 5 by 2.
         Check.is("16 by weight, upper", 28, () -> odds.mean(0, 0));
         Check.is("16 by weight, lower", 5, () -> odds.mean(0, 1));
-        FoldTower one = taughtBy("wind 0 0 0 0;wind 1 0 0 0;wind 2 0 0 0;wind 3 0 0 0;wind 4 0 0 0;"
+        FoldTower one = Check.schooled("wind 0 0 0 0;wind 1 0 0 0;wind 2 0 0 0;wind 3 0 0 0;wind 4 0 0 0;"
                 + "wind 5 0 0 0;wind 6 0 0 0;wind 7 0 0 0;wind 8 0 0 0;");
         Check.is("16 one weight of 1, upper", 75, () -> one.mean(0, 0));
         Check.is("16 one weight of 1, lower", 1, () -> one.mean(0, 1));
@@ -597,17 +591,17 @@ public final class PromisesTest {
         for (int m = 0; m < 10; m++) {
             none.append("wind ").append(m).append(" 1 0 0;");
         }
-        FoldTower all0 = taughtBy(none.toString());
+        FoldTower all0 = Check.schooled(none.toString());
         Check.is("16 all are 0, upper", 0, () -> all0.mean(0, 0));
         Check.is("16 all are 0, lower", 1, () -> all0.mean(0, 1));
-        FoldTower still = taughtBy("table 5 0 2;");
+        FoldTower still = Check.schooled("table 5 0 2;");
         Check.is("16 no far, upper", 0, () -> still.mean(0, 0));
         Check.is("16 no far, lower", 1, () -> still.mean(0, 1));
-        FoldTower back = taughtBy("tower 5;wind 2 5 0;");
+        FoldTower back = Check.schooled("tower 5;wind 2 5 0;");
         back.fold(0, 1);
         // 3 steps: ahead, left, back; 5 more back in minute 0, 5 more ahead in minute 2.
         Check.is("16 even, upper", 0, () -> back.mean(0, 0));
-        FoldTower below = taughtBy("tower 5;wind 2 5 0;wind 0 0 0 2;");
+        FoldTower below = Check.schooled("tower 5;wind 2 5 0;wind 0 0 0 2;");
         below.fold(0, 1);
         Check.is("16 below 0, upper", -5, () -> below.mean(0, 0));
         Check.is("16 below 0, lower", 11, () -> below.mean(0, 1));
@@ -688,11 +682,11 @@ public final class PromisesTest {
         Check.illegal("18 bit 10", () -> t.evening(1024));
         Check.illegal("18 bit 31", () -> t.evening(Integer.MIN_VALUE | 1));
         Check.is("18 the latest stays", 3, () -> t.trim(6));
-        FoldTower even = taughtBy("table 5 0 1;");
+        FoldTower even = Check.schooled("table 5 0 1;");
         Check.is("18 nothing far", 0, () -> even.evening(3));
         Check.is("18 the least first", -3, () -> even.trim(0));
         Check.is("18 the next second", -2, () -> even.trim(1));
-        FoldTower windy = taughtBy("tower 10;wind 1 5 0;");
+        FoldTower windy = Check.schooled("tower 10;wind 1 5 0;");
         windy.fold(0, 1);
         Check.same("18 what is folded now", Check.told(() -> mostOfTwo(windy)), Check.told(() -> windy.evening(3)));
     }
@@ -726,7 +720,7 @@ public final class PromisesTest {
     }
 
     private static void teach() {
-        FoldTower t = taughtBy("known left 1;known nose 1;known tail 2;");
+        FoldTower t = Check.schooled("known left 1;known nose 1;known tail 2;");
         Check.is("20 one", 1, () -> t.teach(2, -1, -1, -1));
         Check.is("20 four", 2, () -> t.teach(0, 1, 2, 0));
         Check.is("20 no such", -1, () -> t.teach(3, -1, -1, -1));
