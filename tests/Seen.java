@@ -91,4 +91,15 @@ final class Seen {
     static void stays(String what, FoldTower t, String due, Check.Call call) {
         changes(what, t, due, "", call);
     }
+
+    /** A call changes something, and nothing but what these calls answer. */
+    static void changesOnly(String what, FoldTower t, String calls, Check.Call call) {
+        Seen before = new Seen(t);
+        Check.same(what, true, Check.told(call).matches("-?[0-9]+"));
+        String changes = before.changesTo(new Seen(t));
+        Check.same(what + ": something changes", false, changes.isEmpty());
+        for (String change : changes.split(", ")) {
+            Check.same(what + ": nothing but " + calls + " changes: " + change, true, change.startsWith(calls));
+        }
+    }
 }
