@@ -14,6 +14,7 @@ public final class CallEdgesTest {
         schoolOfNoSuchTape();
         schoolWithFault();
         schoolAnew();
+        schoolAfterSchool();
         rowOfNoSuchTape();
         rowWithFault();
         rowDone();
@@ -37,6 +38,7 @@ public final class CallEdgesTest {
         taught();
         image();
         restore();
+        restoreOtherFolds();
         refusedLeavesTheImage();
         Check.end();
     }
@@ -209,6 +211,36 @@ public final class CallEdgesTest {
         Check.is("3: no image", 0, () -> told.restore() ? 1 : 0);
     }
 
+    /** Promise 3: "all anew": nothing of the schools ahead of it is left, nor is it told already. */
+    private static void schoolAfterSchool() {
+        String[] all = {"sheet 3 2;table 0 9 9;table 5 9 9;wind 0 1 2 3;wind 9 3 2 1;tower 7;window 9 8 9;known nose 1;",
+            "table 1 9 9;table 9 9 9;wind 0 -1 -2 4;wind 5 3 2 1;tower 9;window 8 7 8;known tail 1;known left 3;"};
+        FoldTower t = new FoldTower();
+        Seen plain = new Seen(new FoldTower());
+        for (int i = 0; i < 4; i++) {
+            String text = all[i % 2];
+            Check.is("3: school " + i + " of many", 0, () -> Check.school(t, text));
+        }
+        Check.is("3: the same school twice", 0, () -> Check.school(t, all[1]));
+        Check.is("3: the same school twice, with a FAULT between", 1, () -> Check.school(t, all[1] + "x"));
+        Check.is("3: the same school thrice", 0, () -> Check.school(t, all[1]));
+        Check.is("3: a school of nothing behind many", 0, () -> t.school(0));
+        Check.same("3: all as without behind many", "count 11: 0 -> 1", plain.changesTo(new Seen(t)));
+        windowAsWithout(t);
+        for (int i = 0; i < 3; i++) {
+            Check.is("3: a school with a FAULT, half told", 1, () -> Check.school(t, all[0] + "known"));
+            Check.is("3: a school that tells another line", 0, () -> Check.school(t, "sheet 4 6;"));
+            windowAsWithout(t);
+        }
+    }
+
+    /** From 20 far, 0 to 30 high, as by the flights of a plain sheet of 4 by 6, by a tower of 30. */
+    private static void windowAsWithout(FoldTower t) {
+        Check.is("WINDOW without, 22 high", 1, () -> t.flight(0, 0, false, 3));
+        Check.is("WINDOW without, 2 high", 1, () -> t.flight(0, -2, false, 3));
+        Check.is("WINDOW without, 30 high", 1, () -> t.flight(0, 2, false, 3));
+    }
+
     /** Promise 4: "IllegalArgumentException likewise." */
     private static void rowOfNoSuchTape() {
         for (int n : new int[] {LEAST, -2, -1, 21, 40, 500, 501, MOST}) {
@@ -334,7 +366,8 @@ public final class CallEdgesTest {
             }
         }
         // 3 columns and 1 row lie there.
-        int[][] refused = {{0, 2}, {1, 2}, {0, 0}, {1, -1}, {2, 1}, {3, 1}, {2, 0}, {0, MOST}, {3, LEAST}, {1, 0x10001}};
+        int[][] refused = {{0, 2}, {1, 2}, {0, 0}, {1, -1}, {2, 1}, {3, 1}, {2, 0}, {0, MOST}, {3, LEAST},
+            {1, 0x10001}};
         for (int[] f : refused) {
             FoldTower t = full();
             Seen.changes("8: fold " + f[0] + " " + f[1], t, "-1", "count 12: 1 -> 2", () -> t.fold(f[0], f[1]));
@@ -576,7 +609,8 @@ public final class CallEdgesTest {
 
     /** Promise 18: "IllegalArgumentException: bits of MINUTES that there aren't, none, more than 7." */
     private static void evening() {
-        for (int bits : new int[] {0, 0b11111111, 0b1111111111, 1 << 10, 1 << 10 | 1, 1 << 31, 1 << 31 | 3, -1, 0b1101111111}) {
+        int[] refused = {0, 0b11111111, 0b1111111111, 1 << 10, 1 << 10 | 1, 1 << 31, 1 << 31 | 3, -1, 0b1101111111};
+        for (int bits : refused) {
             FoldTower t = full();
             Seen.stays("18: bits " + bits, t, "illegal", () -> t.evening(bits));
         }
@@ -611,8 +645,9 @@ public final class CallEdgesTest {
     /** Promise 20: "NONE (STATUS 2): there are 12, one is not as told, there is none of them." */
     private static void teach() {
         // Three FOLDS are KNOWN: 0 to 2.
-        int[][] refused = {{-1, -1, -1, -1}, {3, -1, -1, -1}, {0, 3, -1, -1}, {0, 1, 3, -1}, {0, 1, 2, 3}, {-2, -1, -1, -1},
-            {0, -2, -1, -1}, {0, 0, -2, -1}, {0, 0, 0, -2}, {-1, 0, -1, -1}, {-1, -1, 0, -1}, {-1, -1, -1, 0}, {0, -1, 0, -1},
+        int[][] refused = {{-1, -1, -1, -1}, {3, -1, -1, -1}, {0, 3, -1, -1}, {0, 1, 3, -1}, {0, 1, 2, 3},
+            {-2, -1, -1, -1}, {0, -2, -1, -1}, {0, 0, -2, -1}, {0, 0, 0, -2},
+            {-1, 0, -1, -1}, {-1, -1, 0, -1}, {-1, -1, -1, 0}, {0, -1, 0, -1},
             {0, -1, -1, 0}, {0, 1, -1, 2}, {0, -1, 1, 2}, {-1, 0, 1, 2}, {LEAST, -1, -1, -1}, {MOST, -1, -1, -1},
             {0, MOST, -1, -1}, {0, 0, 0, LEAST}};
         for (int[] n : refused) {
@@ -714,6 +749,27 @@ public final class CallEdgesTest {
         Check.is("23: the BEST stays", 0, () -> other.found(-1));
         Check.none("23: AN EVENING stays", () -> other.trim(0));
         Check.same("23: AN EVENING stays, its minute", false, Check.told(() -> other.trim(3)).equals("none"));
+    }
+
+    /** What is folded otherwise since the image is folded as in it again. */
+    private static void restoreOtherFolds() {
+        FoldTower t = new FoldTower();
+        Check.row(t, "left 1;nose 2;");
+        t.image();
+        t.undo();
+        t.undo();
+        Check.row(t, "right 2;tail 1;nose 1;");
+        Check.is("23: other FOLDS since", 1, () -> t.restore() ? 1 : 0);
+        Check.is("23: other FOLDS since, FOLDS", 2, () -> t.count(4));
+        Check.is("23: other FOLDS since, columns", 3, () -> t.count(2));
+        Check.is("23: other FOLDS since, the first CREASE", 1, () -> t.crease(0, 5, false));
+        Check.is("23: other FOLDS since, the second CREASE", 11, () -> t.crease(3, 1, true));
+        Check.is("23: other FOLDS since, no other CREASE", 0, () -> t.crease(1, 0, false) + t.crease(0, 4, true));
+        Check.is("23: other FOLDS since, undone", 1, t::undo);
+        Check.is("23: other FOLDS since, undone, rows", 6, () -> t.count(3));
+        Check.is("23: other FOLDS since, undone, columns", 3, () -> t.count(2));
+        Check.is("23: the IMAGE is not undone", 1, () -> t.restore() ? 1 : 0);
+        Check.is("23: the IMAGE is not undone, rows", 4, () -> t.count(3));
     }
 
     /** Each call that is refused, and each that throws, leaves the image as it is. */

@@ -77,7 +77,8 @@ public final class FlightEdgesTest {
                 far += 10 + PUSHES[(minute + s) % 10];
                 int m = minute;
                 int steps = s + 1;
-                Check.is("WIND of minute " + m + " behind " + steps + " steps", far, () -> t.step(m, 0, false, steps, 0));
+                Check.is("WIND of minute " + m + " behind " + steps + " steps", far,
+                        () -> t.step(m, 0, false, steps, 0));
             }
         }
         int all = 0;
@@ -227,7 +228,8 @@ public final class FlightEdgesTest {
             int s = steps;
             int turns = steps / each % 4;
             int due = side == RIGHT ? turns : (4 - turns) % 4;
-            Check.is(name + (side == LEFT ? " left" : " right") + ", behind " + s, due, () -> t.step(0, 0, false, s, 2));
+            Check.is(name + (side == LEFT ? " left" : " right") + ", behind " + s, due,
+                    () -> t.step(0, 0, false, s, 2));
         }
     }
 
@@ -285,7 +287,8 @@ public final class FlightEdgesTest {
         through("from 1 less than D", 1, cell("table 0 5 1;tower 2;window 6 0 0;"));
         through("not from D", 0, cell("table 0 5 1;tower 2;window 5 0 0;"));
         through("not from more than D", 0, cell("table 0 5 1;tower 2;window 4 0 0;"));
-        through("not by a step of 0 at D", 0, cell("table 0 5 1;tower 4;wind 1 -5 0;wind 2 -5 0;wind 3 -5 0;window 5 0 2;"));
+        through("not by a step of 0 at D", 0,
+                cell("table 0 5 1;tower 4;wind 1 -5 0;wind 2 -5 0;wind 3 -5 0;window 5 0 2;"));
         through("D of 200", 1, cell("table 0 20 1;tower 10;window 200 0 0;"));
         through("D of 200, too low by then", 0, cell("table 0 20 1;tower 9;window 200 0 200;"));
         through("D of 1 by 1", 1, cell("table 0 1 1;tower 5;window 1 4 4;"));

@@ -102,7 +102,8 @@ public final class PaperEdgesTest {
     private static void turnedOrder() {
         String text = "A FOLD's turned order: ";
         Check.same(text + "two layers onto one", "2,0,101 3", layersOf(folded(4, 1, LEFT, 1, LEFT, 1)));
-        Check.same(text + "two layers onto one, from the right", "0 1,3,102", layersOf(folded(4, 1, RIGHT, 1, RIGHT, 1)));
+        Check.same(text + "two layers onto one, from the right", "0 1,3,102",
+                layersOf(folded(4, 1, RIGHT, 1, RIGHT, 1)));
         Check.same(text + "two onto two", "2,103,0,101", layersOf(folded(4, 1, LEFT, 1, RIGHT, 1, LEFT, 1)));
         Check.same(text + "two onto two, from the right", "1,100,3,102",
                 layersOf(folded(4, 1, LEFT, 1, RIGHT, 1, RIGHT, 1)));
@@ -111,7 +112,8 @@ public final class PaperEdgesTest {
                 layersOf(folded(5, 1, LEFT, 1, LEFT, 1, LEFT, 1, LEFT, 1)));
         Check.same(text + "lengthwise, then across", "3,101,0,102", layersOf(folded(2, 2, NOSE, 1, LEFT, 1)));
         Check.same(text + "across, then lengthwise", "3,102,0,101", layersOf(folded(2, 2, LEFT, 1, NOSE, 1)));
-        Check.same(text + "from the tail, then from the right", "0,102,3,101", layersOf(folded(2, 2, TAIL, 1, RIGHT, 1)));
+        Check.same(text + "from the tail, then from the right", "0,102,3,101",
+                layersOf(folded(2, 2, TAIL, 1, RIGHT, 1)));
     }
 
     /** "of what lies there now, as wide (as long) as it is now". */

@@ -1,3 +1,5 @@
+import java.util.Arrays;
+
 /** The edges of "Terms 4", of BEST to AN IMAGE: each test bears its term and its sentence. */
 public final class SearchEdgesTest {
     // Each flight is one step, so that it is as far as FORWARD less how far the trim is from 0.
@@ -23,6 +25,8 @@ public final class SearchEdgesTest {
         likeOnesFewestFolds();
         likeOnesFirstRow();
         likeOnesLeastTrim();
+        bestAgain();
+        bestIsThatOfAll();
         spent();
         meanOfWeights();
         meanInLowestTerms();
@@ -208,6 +212,69 @@ public final class SearchEdgesTest {
         foundIs("BEST of like ones, by 2 and by 3", two, 2);
     }
 
+    /** What a call found changes nothing for the next one; but by a turn it comes through so low a window. */
+    private static void bestAgain() {
+        for (String side : new String[] {"left", "right"}) {
+            FoldTower t = Check.schooled("sheet 3 1;known " + side + " 1;table 0 1 1;tower 100;window 4 64 64;");
+            for (int i = 1; i <= 3; i++) {
+                Check.is("BEST by a turn to the " + side + ", time " + i, 4, () -> t.best(2, 4, 0));
+                foundIs("BEST by a turn to the " + side + ", time " + i, t, 0, 0);
+                Check.is("BEST without a turn, time " + i, 1, () -> t.rows(0, true));
+            }
+        }
+    }
+
+    /** "of all ROWS .. that can be .. with each TRIM": as by folding and throwing each one, in the order of like ones. */
+    private static void bestIsThatOfAll() {
+        String[] sheets = {"sheet 3 4;", "sheet 5 3;", "sheet 4 6;", "sheet 8 5;", "sheet 6 1;", "sheet 3 8;"};
+        String[] tables = {"table 5 3 9;table 6 4 2;table 4 9 1;table 3 12 3;wind 2 5 0;wind 0 0 -3;wind 7 -2 2;window 12 3 25;",
+            "tower 77;table 5 1 1;table 6 3 6;table 4 2 3;table 3 2 2;wind 1 4 -1;wind 3 -3 1;wind 4 2 0;window 9 10 66;"};
+        String[] known = {"known right 1;known tail 1;known left 2;", "known nose 2;known left 1;known nose 1;known right 1;"};
+        int of = 0;
+        for (String sheet : sheets) {
+            for (String table : tables) {
+                String text = sheet + table + known[of % 2];
+                int minute = of % 10;
+                for (int what = 0; what < 3; what++) {
+                    bestIsThatOf(text, 3 + of % 2, what, minute);
+                }
+                of++;
+            }
+        }
+    }
+
+    private static void bestIsThatOf(String text, int known, int what, int minute) {
+        FoldTower t = Check.schooled(text);
+        int best = -10000;
+        String due = "";
+        for (int row = 0; row < 1 + known + known * known; row++) {
+            // 0 is the row of none; then those of one, then those of two, as rows of numbers.
+            int two = row - 1 - known;
+            int[] folds = row == 0 ? new int[0] : two < 0 ? new int[] {row - 1} : new int[] {two / known, two % known};
+            FoldTower one = Check.schooled(text);
+            boolean can = true;
+            for (int k : folds) {
+                String told = text.split("known ")[1 + k];
+                can &= Check.row(one, told) == 1;
+            }
+            for (int trim = -3; trim <= 3 && can; trim++) {
+                int value = one.flight(minute, trim, false, what == 1 ? 1 : 0);
+                if (value > best && (what < 2 || one.flight(minute, trim, false, 3) == 1)) {
+                    best = value;
+                    due = Arrays.toString(folds) + " " + trim;
+                }
+            }
+        }
+        int value = best;
+        Check.is("BEST " + what + " of all by " + text, value, () -> t.best(what, 2, minute));
+        int[] found = new int[best == -10000 ? 0 : t.found(-1)];
+        for (int i = 0; i < found.length; i++) {
+            found[i] = t.found(i);
+        }
+        String got = best == -10000 ? "" : Arrays.toString(found) + " " + t.found(-2);
+        Check.same("BEST " + what + " of all by " + text + ": which", due, got);
+    }
+
     /** "SPENT: more than 5000 ROWS can be": 4998 and 5027 are the next to it that there are. */
     private static void spent() {
         FoldTower most = Check.schooled(ROWS_4998 + "tower 1;");
@@ -255,6 +322,8 @@ public final class SearchEdgesTest {
             int[] weights = new int[10];
             weights[m] = 99;
             meanIs("of minute " + m + " alone", Check.schooled(one + winds(pushes, weights)), 5 + pushes[m], 1);
+            weights[m] = 1;
+            meanIs("of minute " + m + " alone, by 1", Check.schooled(one + winds(pushes, weights)), 5 + pushes[m], 1);
         }
         // 6 by 99, 7 by 1 are 601 by 100.
         meanIs("of 99 and 1", Check.schooled(one + winds(pushes, new int[] {99, 1, 0, 0, 0, 0, 0, 0, 0, 0})), 601, 100);
@@ -280,7 +349,8 @@ public final class SearchEdgesTest {
         int[] prime = {99, 99, 99, 99, 99, 99, 99, 99, 99, 98};
         // 891 by 5 and 98 by 6, of 989.
         meanIs("with nothing to be lowered", Check.schooled(one + winds(last, prime)), 5043, 989);
-        FoldTower ever = Check.schooled("sheet 1 1;table 0 20 0;" + winds(new int[] {5, 5, 5, 5, 5, 5, 5, 5, 5, 5}, most));
+        int[] windy = {5, 5, 5, 5, 5, 5, 5, 5, 5, 5};
+        FoldTower ever = Check.schooled("sheet 1 1;table 0 20 0;" + winds(windy, most));
         meanIs("of as far as can be", ever, 5000, 1);
         meanIs("of 2 and 4 and 6", Check.schooled("sheet 1 1;tower 1;table 0 4 20;"
                 + winds(new int[] {-2, 0, 2, 0, 0, 0, 0, 0, 0, 0}, new int[] {3, 4, 5, 0, 0, 0, 0, 0, 0, 0})), 13, 3);
@@ -428,6 +498,10 @@ public final class SearchEdgesTest {
         eveningIs(even, 3, 5, -1, 0);
         eveningIs(even, 7, 7, -1, 0, 1);
         eveningIs(even, 15, 8, -2, -1, 0, 1);
+        // Fewer minutes than in the latest one: what is not thrown now counts for nothing.
+        eveningIs(even, 7, 7, -1, 0, 1);
+        eveningIs(even, 3, 5, -1, 0);
+        eveningIs(even, 1 << 9, 3, 0);
         String text = "sheet 1 1;tower 9;table 0 6 4;wind 0 2 1;wind 1 -1 2;wind 2 0 -2;wind 5 3 1;";
         for (int bits : new int[] {7, 0b100011, 0b1000000101, 0b110110, 0b1101110011}) {
             FoldTower t = Check.schooled(text);
@@ -516,7 +590,8 @@ public final class SearchEdgesTest {
         taughtAre("one single", taughtRows(1), 0);
         taughtAre("none of two, three, four", taughtRows(12, 123, 1234));
         taughtAre("each single", taughtRows(5, 4, 3, 2, 1), 0, 1, 2, 3, 4);
-        taughtAre("12 single ones", taughtRows(1, 2, 3, 4, 5, 1, 2, 3, 4, 5, 1, 2), 0, 1, 2, 3, 4, 5, 6, 7, 8, 9, 10, 11);
+        taughtAre("12 single ones", taughtRows(1, 2, 3, 4, 5, 1, 2, 3, 4, 5, 1, 2),
+                0, 1, 2, 3, 4, 5, 6, 7, 8, 9, 10, 11);
     }
 
     /** "or is one that is taught already with one FOLD more behind it". */

@@ -25,7 +25,8 @@ public final class TextEdgesTest {
         new Range("known left #;", 1, 4), new Range("known right #;", 1, 4),
         new Range("known nose #;", 1, 4), new Range("known tail #;", 1, 4)};
     private static final Range[] ROW_RANGES = {
-        new Range("left #;", 1, 4), new Range("right #;", 1, 4), new Range("nose #;", 1, 4), new Range("tail #;", 1, 4)};
+        new Range("left #;", 1, 4), new Range("right #;", 1, 4),
+        new Range("nose #;", 1, 4), new Range("tail #;", 1, 4)};
 
     private TextEdgesTest() {
     }
@@ -41,6 +42,7 @@ public final class TextEdgesTest {
         tokens();
         blanks();
         lines();
+        words();
         ranges();
         faults();
         toldTwice();
@@ -317,6 +319,36 @@ public final class TextEdgesTest {
             }
         }
         Check.is("ROW of two, one line each", 2, () -> Check.row(new FoldTower(), String.join("\n", row)));
+    }
+
+    /** Each word of a TEXT letter by letter: with another one, with one less, with one more it can't stand. */
+    private static void words() {
+        String[] texts = {"sheet 4 6;", "table 3 4 5;", "wind 3 4 5;", "tower 9;", "window 9 1 2;", "known left 1;"};
+        for (String text : texts) {
+            otherLetters("", text.substring(0, text.indexOf(' ')), text.substring(text.indexOf(' ')));
+        }
+        for (String side : new String[] {"left", "right", "nose", "tail"}) {
+            otherLetters("known ", side, " 1;");
+            for (int i = 0; i < side.length(); i++) {
+                rowFault(side.substring(0, i) + "q" + side.substring(i + 1) + " 1;", 1, 0);
+                rowFault("left 1;" + side.substring(0, i) + side.substring(i + 1) + " 1;", 1, 7);
+            }
+        }
+        schoolFault("windo 1 1 1;", 1, 0);
+        schoolFault("left 1;", 1, 0);
+        schoolFault("known known left 1;", 1, 6);
+        schoolFault("known tower 1;", 1, 6);
+        rowFault("sheet 1 1;", 1, 0);
+    }
+
+    private static void otherLetters(String before, String word, String behind) {
+        for (int i = 0; i < word.length(); i++) {
+            String start = before + word.substring(0, i);
+            schoolFault(start + "q" + word.substring(i + 1) + behind, 1, before.length());
+            schoolFault(start + word.substring(i + 1) + behind, 1, before.length());
+            schoolFault(start + word.charAt(i) + word.substring(i) + behind, 1, before.length());
+        }
+        schoolFault(before + word + word.charAt(0) + behind, 1, before.length());
     }
 
     /** "1 a TOKEN that can't stand there, or is none (the text's length where it ends too soon)", at each place. */
