@@ -1,14 +1,20 @@
+import java.util.HashSet;
 import java.util.Random;
+import java.util.Set;
 
 /** Long runs of random calls, each answered by the class and by the model of the document. */
 public final class RandomRunsTest {
     private static final int RUNS = 1500;
     private static final int CALLS = 512;
+    private static final int METHODS = 22;
+    // As many calls as one turn may make: a text of 500 bytes is fed, read, and its fault asked.
+    private static final int MOST_OF_A_TURN = 27;
 
     private final Random random;
     private final FoldTower real = new FoldTower();
     private final Model model = new Model();
     private final StringBuilder log = new StringBuilder();
+    private final Set<String> called = new HashSet<>();
     private int searches = 0;
     private int calls = 0;
 
@@ -17,20 +23,31 @@ public final class RandomRunsTest {
     }
 
     public static void main(String[] args) {
+        int wholeRuns = 0;
         for (int seed = 1; seed <= RUNS && Check.wrong() == 0; seed++) {
             RandomRunsTest run = new RandomRunsTest(seed);
             int most = seed % 3 == 0 ? CALLS : 80;
-            if (seed % 4 != 0) {
-                run.tell(run.faultlessSchool(), true);
-            }
-            while (run.calls < most - 26 && Check.wrong() == 0) {
-                run.next();
-            }
+            run.go(seed % 4 != 0, most);
+            Check.same("how many calls the run has", most, run.calls);
+            wholeRuns += most == CALLS && run.called.size() == METHODS ? 1 : 0;
             if (Check.wrong() != 0) {
                 System.out.println("seed " + seed + ":\n" + run.log);
             }
         }
+        Check.same("many runs of 512 calls have calls of all promises: " + wholeRuns, true, wholeRuns > RUNS / 5);
         Check.end();
+    }
+
+    private void go(boolean withSchool, int most) {
+        if (withSchool) {
+            tell(faultlessSchool(), true);
+        }
+        while (calls <= most - MOST_OF_A_TURN && Check.wrong() == 0) {
+            next();
+        }
+        while (calls < most && Check.wrong() == 0) {
+            nextAlone();
+        }
     }
 
     private int from(int least, int most) {
@@ -43,6 +60,7 @@ public final class RandomRunsTest {
 
     private void compare(String call, Check.Call byModel, Check.Call byReal) {
         calls++;
+        called.add(call.split(" ")[0]);
         String due = Check.told(byModel);
         String got = Check.told(byReal);
         log.append(call).append(" -> ").append(due).append('\n');
@@ -199,6 +217,21 @@ public final class RandomRunsTest {
             case 16: throwing(); break;
             case 17: case 18: teaching(); break;
             case 19: { int i = from(-2, 12); compare("taught " + i, () -> model.taught(i), () -> real.taught(i)); break; }
+            default: keeping(); break;
+        }
+    }
+
+    /** A turn that makes but one call. */
+    private void nextAlone() {
+        switch (from(0, 9)) {
+            case 0: case 1: folding(); break;
+            case 2: compare("undo", model::undo, real::undo); break;
+            case 3: layering(); break;
+            case 4: creasing(); break;
+            case 5: flying(); break;
+            case 6: stepping(); break;
+            case 7: finding(); break;
+            case 8: meaning(); break;
             default: keeping(); break;
         }
     }
